@@ -532,7 +532,7 @@ public final class ChipBurner {
         }
 
         private boolean isColonLine(int start, int stop) {
-            if (source.at(start) != ':' || stop - start < 11 || !areBytes(start + 1, stop)) {
+            if (source.at(start) != ':' || stop - start < 11 || !areDigits(start + 1, stop)) {
                 return false;
             }
             int n = source.pairAt(start + 1);
@@ -545,7 +545,7 @@ public final class ChipBurner {
         }
 
         private boolean isSLine(int start, int stop) {
-            if (source.at(start) != 'S' || stop - start < 10 || !areBytes(start + 2, stop)) {
+            if (source.at(start) != 'S' || stop - start < 10 || !areDigits(start + 2, stop)) {
                 return false;
             }
             int type = source.at(start + 1);
@@ -557,13 +557,13 @@ public final class ChipBurner {
             return stop - start == 4 + 2 * n && (type == '0' || type == '1' || type == '9' && n == 3);
         }
 
-        private boolean areBytes(int from, int stop) {
+        private boolean areDigits(int from, int stop) {
             for (int i = from; i < stop; i++) {
                 if (source.digitAt(i) == NONE) {
                     return false;
                 }
             }
-            return (stop - from) % 2 == 0;
+            return true;
         }
 
         private int sumOf(int from, int stop) {
@@ -845,7 +845,8 @@ public final class ChipBurner {
     /**
      * The STEPS of a RECIPE, each ahead of those inside it: those of a try, or the first ones of an
      * ok, begin right behind it; the others of an ok begin at its otherwise; behind[i] is the STEP that
-     * follows all that lies in STEP i.
+     * follows all that lies in STEP i. A loop over STEPS goes on at least by one, so that it ends
+     * whatever the rows hold.
      */
     private static final class Recipe {
         private final int[] kinds = new int[STEPS_MOST];
@@ -908,9 +909,8 @@ public final class ChipBurner {
             return isStep(i) ? otherwise[i] : count;
         }
 
-        /** Never i itself or one ahead of it, so that every walk over STEPS ends. */
         int behindOf(int i) {
-            return isStep(i) ? Math.max(i + 1, behind[i]) : count;
+            return isStep(i) ? behind[i] : count;
         }
 
         /** Measured once, when the RECIPE is read, since each burning asks for it. */

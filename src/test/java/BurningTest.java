@@ -87,6 +87,13 @@ public final class BurningTest {
         dueAddress(x, 0, 255, 255, 2);
         Check.due("burn", x.burn(0, 0, 7, 0, 1, 8), 8);
         dueAddress(x, 0, 1, 1, 3);
+        // Volts are 0 at first, which is below any LEAST.
+        x = new ChipBurner();
+        Check.due("chip", x.chip(8, 7, true, 1, 20, 200, 0, 50), 0);
+        Check.recipe(x, 0, "pulse 3;volt 1;pulse 2;", 3, 0, NONE);
+        image(x, "\u0001");
+        Check.due("burn", x.burn(0, 0, 7, 0, 1, 100000), 5);
+        dueAddress(x, 0, 255, 255, 2);
     }
 
     private static void anotherByte() {
@@ -150,6 +157,9 @@ public final class BurningTest {
         x = with(8, 0, "volt 15;try 4{try 2{pulse 1;verify;}}");
         image(x, "\u0000");
         Check.due("burn", x.burn(0, 0, 7, 0, 1, 100000), 3);
+        x = with(8, 0, "volt 15;" + "try 1{ok{}else{".repeat(2) + "try 2{pulse 2;}" + "}}".repeat(2));
+        image(x, "\u0000");
+        Check.due("burn", x.burn(0, 0, 7, 0, 1, 100000), 4);
         // Verify looks at HIGH too.
         x = with(8, 4, "volt 15;pulse 3;verify;ok{}else{pulse 4;verify;}ok{pulse 10;}else{}");
         image(x, "\u0000");

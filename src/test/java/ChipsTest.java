@@ -167,17 +167,17 @@ public final class ChipsTest {
 
     private static void erasing() {
         ChipBurner x = withChip(16, true, 2, 2);
-        Check.recipe(x, 0, "volt 9; pulse 4;", 2, 0, NONE);
+        Check.recipe(x, 0, "volt 9; pulse 5;", 2, 0, NONE);
         x.fill(0x3C);
-        Check.due("burn", x.burn(0, 0, 7, 0, 1, 100000), 64);
+        Check.due("burn", x.burn(0, 0, 7, 0, 1, 100000), 80);
         Check.due("LOW", x.chipOf(0, 115), 0x3C);
-        Check.due("HIGH", x.chipOf(0, 215), 255);
-        Check.due("COUNT", x.chipOf(0, 415), 4);
+        Check.due("HIGH", x.chipOf(0, 215), 0x3C);
+        Check.due("COUNT", x.chipOf(0, 415), 5);
         Check.due("need(0, 4, 10)", x.need(0, 4, 10), true);
         Check.due("bad(0, 1, true)", x.bad(0, 1, true), true);
         Check.due("erase(0)", x.erase(0), 1);
         Check.due("chipOf(0, 3)", x.chipOf(0, 3), 1);
-        Check.due("pulses ever", x.chipOf(0, 4), 64);
+        Check.due("pulses ever", x.chipOf(0, 4), 80);
         for (int a = 0; a < 16; a++) {
             Check.due("LOW of " + a, x.chipOf(0, 100 + a), 255);
             Check.due("HIGH of " + a, x.chipOf(0, 200 + a), 255);

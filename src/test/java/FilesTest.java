@@ -142,6 +142,10 @@ public final class FilesTest {
             Check.file(x, 1, line + "\n" + end, NONE, 1, 0);
             Check.file(x, 1, colon(0, 0, 1) + "\n" + line + "\n" + end, NONE, 1, 15);
         }
+        // Too short a LINE, and DIGITS behind it that would make it up.
+        Check.file(x, 1, ":\nB000000000000", NONE, 1, 0);
+        Check.file(x, 1, "\n".repeat(12) + ":\nB000000000000", NONE, 1, 12);
+        x = new ChipBurner();
         Check.file(x, 1, ":0000000100\n", NONE, 2, 0);
         Check.file(x, 1, ":00000001FE\n", NONE, 2, 0);
         Check.file(x, 1, "\n:0100000001FF\n" + end, NONE, 2, 1);

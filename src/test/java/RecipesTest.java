@@ -8,6 +8,7 @@ public final class RecipesTest {
         faultsOfNumbers();
         faultsOfMany();
         formerStays();
+        readOverAndOver();
         noSuchRecipe();
         voltsOfWays();
         pulsesAndStepsOfWays();
@@ -116,6 +117,14 @@ public final class RecipesTest {
         faulty("verify;\u00ff", 1, 7);
         faulty("verify;\u00e4", 1, 7);
         faulty("verify_;", 1, 6);
+        String[] letters = {"a", "z", "A", "Z"};
+        for (String letter : letters) {
+            faulty("verify" + letter + ";", 1, 0);
+        }
+        String[] beside = {"`", "{", "@", "[", "/", ":"};
+        for (String sign : beside) {
+            faulty("verify" + sign + ";", 1, 6);
+        }
         faulty("volt 3?", 1, 6);
         faulty("@`[/:", 1, 0);
         // What is further behind is not come to.
@@ -180,6 +189,29 @@ public final class RecipesTest {
         Check.due("walk(1, 2)", x.walk(1, 2), 9);
     }
 
+    /** Nothing of a longer RECIPE is left when a shorter one takes its place, however often. */
+    private static void readOverAndOver() {
+        ChipBurner x = new ChipBurner();
+        for (int n = 0; n < 3; n++) {
+            Check.recipe(x, 0, "try 9{volt 29;ok{pulse 40;}else{verify;}}", 5, 0, NONE);
+            Check.due("walk(0, 1)", x.walk(0, 1), 29);
+            Check.due("walk(0, 2)", x.walk(0, 2), 360);
+            Check.due("walk(0, 3)", x.walk(0, 3), 28);
+        }
+        for (int n = 0; n < 3; n++) {
+            Check.recipe(x, 0, "volt 5;pulse 1;pulse 2;verify;", 4, 0, NONE);
+            Check.due("walk(0, 1)", x.walk(0, 1), 5);
+            Check.due("walk(0, 2)", x.walk(0, 2), 3);
+            Check.due("walk(0, 3)", x.walk(0, 3), 4);
+        }
+        for (int n = 0; n < 3; n++) {
+            Check.recipe(x, 0, "verify;", 1, 0, NONE);
+            Check.due("walk(0, 1)", x.walk(0, 1), NONE);
+            Check.due("walk(0, 2)", x.walk(0, 2), 0);
+            Check.due("walk(0, 3)", x.walk(0, 3), 1);
+        }
+    }
+
     private static void noSuchRecipe() {
         ChipBurner x = new ChipBurner();
         Check.load(x, "verify;");
@@ -235,6 +267,9 @@ public final class RecipesTest {
         walk("try 2{ok{pulse 1;}else{try 3{pulse 1;}}}", 0, 6, 1 + 2 * (1 + 1 + 3));
         walk("ok{ok{verify;}else{verify;verify;}}else{ok{}else{pulse 9;}}", 0, 9, 4);
         walk("try 50{try 50{verify;}}", NONE, 0, 2551);
+        walk("try 2{".repeat(5) + "volt 9;pulse 3;" + "}".repeat(5), 9, 96, 31 + 64);
+        walk("ok{}else{".repeat(5) + "volt 9;pulse 3;" + "}".repeat(5), 9, 3, 7);
+        walk("ok{".repeat(5) + "volt 9;pulse 3;" + "}else{}".repeat(5), 9, 3, 7);
     }
 
     private static void capped() {
