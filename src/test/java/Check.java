@@ -2,15 +2,25 @@
 final class Check {
     private static int answers = 0;
     private static int wrong = 0;
+    private static String sentence = "";
 
     private Check() {
+    }
+
+    /** What the document says, that the answers from here on are due by; told with each that is not. */
+    static void sentence(String words) {
+        sentence = words;
+    }
+
+    private static void tell(String what) {
+        wrong++;
+        System.out.println(sentence.isEmpty() ? what : what + "\n    by: " + sentence);
     }
 
     static void due(String call, long got, long want) {
         answers++;
         if (got != want) {
-            wrong++;
-            System.out.println(call + " answered " + got + ", due is " + want);
+            tell(call + " answered " + got + ", due is " + want);
         }
     }
 
@@ -21,8 +31,7 @@ final class Check {
     static void due(String call, String got, String want) {
         answers++;
         if (!got.equals(want)) {
-            wrong++;
-            System.out.println(call + " answered\n" + got + "due is\n" + want);
+            tell(call + " answered\n" + got + "due is\n" + want);
         }
     }
 
@@ -50,10 +59,11 @@ final class Check {
         return word;
     }
 
+    /** What the tape has; a call for each byte and one more, and it ends even if the tape's bytes do not. */
     static String tapeOf(ChipBurner x) {
         StringBuilder text = new StringBuilder();
-        for (int i = 0; x.tape(i) != ChipBurner.NONE; i++) {
-            text.append((char) x.tape(i));
+        for (int b = x.tape(0); b != ChipBurner.NONE && text.length() <= 400; b = x.tape(text.length())) {
+            text.append((char) b);
         }
         return text.toString();
     }

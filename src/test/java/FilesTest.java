@@ -337,24 +337,10 @@ public final class FilesTest {
     }
 
     private static String colon(int type, int address, int... data) {
-        StringBuilder text = new StringBuilder();
-        text.append(String.format(":%02X%04X%02X", data.length, address, type));
-        int sum = data.length + (address >> 8) + (address & 255) + type;
-        for (int b : data) {
-            text.append(String.format("%02X", b));
-            sum += b;
-        }
-        return text.append(String.format("%02X\n", -sum & 255)).toString();
+        return Lines.colon(type, address, data);
     }
 
     private static String s(int type, int address, int... data) {
-        StringBuilder text = new StringBuilder();
-        text.append(String.format("S%d%02X%04X", type, data.length + 3, address));
-        int sum = data.length + 3 + (address >> 8) + (address & 255);
-        for (int b : data) {
-            text.append(String.format("%02X", b));
-            sum += b;
-        }
-        return text.append(String.format("%02X\n", 255 - sum & 255)).toString();
+        return Lines.s(type, address, data);
     }
 }
