@@ -34,6 +34,7 @@ public final class BurnEdgesTest {
         goneOnWith();
         goneOnBeginsAnew();
         pulsesTold();
+        burnOfEachId();
         burnOfOthers();
         notBegun();
         wrongCounted();
@@ -145,6 +146,7 @@ public final class BurnEdgesTest {
         makes("volt 10;try 2{try 3{pulse 4;}}", 60, 24);
         makes("volt 10;try 3{}pulse 1;", 60, 1);
         makes("volt 10;" + "try 2{".repeat(5) + "pulse 1;" + "}".repeat(5), 60, 32);
+        makes("try 2{".repeat(5) + "volt 10;pulse 1;verify;" + "}".repeat(5), 5, 5);
     }
 
     private static void okFirstOrOthers() {
@@ -560,6 +562,20 @@ public final class BurnEdgesTest {
         for (int pulses = 23; pulses <= 25; pulses++) {
             Check.due("burn of " + pulses, x.burn(0, 0, 7, 0, 1, pulses), Math.min(pulses, 24));
             x.erase(0);
+        }
+    }
+
+    private static void burnOfEachId() {
+        Check.sentence("NONE: no such .. id (0 .. 255); 2 another ID than told (of a burning)");
+        for (int id : new int[] {0, 1, 127, 128, 254, 255}) {
+            ChipBurner x = new ChipBurner();
+            x.chip(8, id, true, 10, 20, 200, 0, 0);
+            Check.recipe(x, 0, "volt 10;pulse 3;", 2, 0, NONE);
+            x.fill(0);
+            for (int told : new int[] {-1, id - 1, id + 1, id + 256, id - 256, 256}) {
+                Check.due("ID " + id + ", told " + told, x.burn(0, 0, told, 0, 1, 100), NONE);
+            }
+            Check.due("ID " + id, x.burn(0, 0, id, 0, 1, 100), 24);
         }
     }
 

@@ -3,8 +3,26 @@ final class Check {
     private static int answers = 0;
     private static int wrong = 0;
     private static String sentence = "";
+    private static final long PATIENCE = 300_000;
+
+    // A call that does not end must fail the test, not hold it up for good.
+    static {
+        Thread watch = new Thread(Check::stopWhenTooLong);
+        watch.setDaemon(true);
+        watch.start();
+    }
 
     private Check() {
+    }
+
+    private static void stopWhenTooLong() {
+        try {
+            Thread.sleep(PATIENCE);
+        } catch (InterruptedException e) {
+            return;
+        }
+        System.out.println("it does not end\n    by: " + sentence);
+        Runtime.getRuntime().halt(1);
     }
 
     /** What the document says, that the answers from here on are due by; told with each that is not. */

@@ -491,6 +491,10 @@ public final class FileEdgesTest {
                 faulty(form, Lines.data(form, 65535, Lines.bytes(count)) + end, 3, 0);
                 faulty(form, Lines.data(form, 65536 - count, Lines.bytes(count)) + end, 3, 0);
             }
+            // A LINE without data has none at an address above 255.
+            for (int address : new int[] {255, 256, 257, 65535}) {
+                good(form, Lines.data(form, address) + end, 0);
+            }
             ChipBurner x = new ChipBurner();
             Check.file(x, form, Lines.data(form, 254, 1, 2, 3) + end, NONE, 3, 0);
             Check.due("image(254)", x.image(254), 255);

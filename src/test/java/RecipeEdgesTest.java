@@ -22,11 +22,13 @@ public final class RecipeEdgesTest {
         longNumbers();
         fiveOpenSixNot();
         closedOnesAreNotOpen();
+        innermostOfFive();
         mostSteps();
         recipes0To3();
         noSuchRecipe();
         formerStays();
         tapeIsEmptyThen();
+        nothingOfTheFormerOne();
         stepsCounted();
         mostVolts();
         tryMayEndAtOnce();
@@ -301,6 +303,27 @@ public final class RecipeEdgesTest {
         faulty(five + "try1{".repeat(6), 3, five.length() + 25);
     }
 
+    private static void innermostOfFive() {
+        Check.sentence("WAYS: each ok may go either way, each try end ahead of any time (with five open around one another)");
+        String inside = "volt 21;pulse 3;verify;";
+        String[] fives = {
+            "try 1{".repeat(5) + inside + "}".repeat(5), "ok{".repeat(5) + inside + "}else{}".repeat(5),
+            "ok{}else{".repeat(5) + inside + "}".repeat(5), "try 1{ok{ok{}else{try 1{ok{" + inside + "}else{}}}}else{}}",
+        };
+        for (String five : fives) {
+            walk(five, 0, 8);
+            walk(five, 1, 21);
+            walk(five, 2, 3);
+            walk(five, 3, 8);
+            // What is set in there is there behind it too.
+            walk(five + "pulse 1;", 1, 21);
+            walk("pulse 1;" + five.replace("pulse 3;", ""), 1, 0);
+            walk(five.replace("pulse 3;", "") + "pulse 1;", 1, 21);
+        }
+        walk("try 2{".repeat(5) + inside + "}".repeat(5), 2, 96);
+        walk("try 2{".repeat(5) + inside + "}".repeat(5), 3, 1 + 2 + 4 + 8 + 16 + 32 * 3);
+    }
+
     private static void mostSteps() {
         Check.sentence("3 the 41st STEP (at its word)");
         // No STEP is shorter than six bytes, so in 200 bytes there is no 41st one to be refused; as many as there can be are taken.
@@ -378,6 +401,27 @@ public final class RecipeEdgesTest {
             Check.due("recipe of nothing", x.recipe(0), 0);
             Check.due("walk(0, 0)", x.walk(0, 0), 0);
             Check.due("fault(0)", x.fault(0), 0);
+        }
+    }
+
+    private static void nothingOfTheFormerOne() {
+        Check.sentence("The tape (empty then) is RECIPE r (and nothing of the former one is left)");
+        String[] texts = {
+            "try 9{volt 29;ok{pulse 40;}else{verify;}}", "volt 5;pulse 1;pulse 2;verify;pulse 4;", "verify;", "ok{}else{pulse 3;}",
+            "pulse 1;ok{verify;verify;}else{}volt 30;", "",
+        };
+        int[][] due = {{5, 29, 360, 28}, {5, 5, 7, 5}, {1, NONE, 0, 1}, {2, 0, 3, 2}, {5, 0, 1, 5}, {0, NONE, 0, 0}};
+        for (int first = 0; first < texts.length; first++) {
+            for (int second = 0; second < texts.length; second++) {
+                ChipBurner x = new ChipBurner();
+                for (int n = 0; n < 6; n++) {
+                    int which = n % 2 == 0 ? first : second;
+                    Check.recipe(x, n % 4 == 3 ? 1 : 0, texts[which], due[which][0], 0, NONE);
+                    for (int what = 0; what < 4; what++) {
+                        Check.due("walk " + what + " of " + texts[which], x.walk(n % 4 == 3 ? 1 : 0, what), due[which][what]);
+                    }
+                }
+            }
         }
     }
 
