@@ -19,6 +19,7 @@ public final class ChipBurner {
     private static final int RETURN = 13;
     private static final int BLANK = 32;
     private static final int LINE_DATA = 16;
+    private static final int BROUGHT_MOST = 2147483647;
 
     private static final int CHIPS_MOST = 4;
     private static final int BLOCK_SIZE = 8;
@@ -93,7 +94,7 @@ public final class ChipBurner {
         int dataBytes = formReader.readInto(picture, form);
         reel.cutTo(0);
         if (dataBytes != NONE) {
-            brought = (int) Math.min(Integer.MAX_VALUE, (long) brought + dataBytes);
+            brought = (int) Math.min(BROUGHT_MOST, (long) brought + dataBytes);
         }
         return dataBytes;
     }

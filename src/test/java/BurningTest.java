@@ -4,7 +4,6 @@ public final class BurningTest {
     private static final int[] FAR = {Integer.MIN_VALUE, -1000000, -1, 1000000, Integer.MAX_VALUE};
 
     public static void main(String[] args) {
-        readme();
         pulsesOfAByte();
         tooFewVolts();
         anotherByte();
@@ -41,21 +40,6 @@ public final class BurningTest {
 
     private static void image(ChipBurner x, String bytes) {
         Check.file(x, 0, bytes, bytes.length(), 0, NONE);
-    }
-
-    /** The run that README.md shows. */
-    private static void readme() {
-        ChipBurner x = new ChipBurner();
-        Check.due("feed", x.feed(0x766F6C74, 0x2031323B, 0x70756C73, 0x6520333B, 0), 20);
-        Check.due("end", x.end(16), 16);
-        Check.due("recipe", x.recipe(0), 2);
-        Check.due("walk", x.walk(0, 2), 3);
-        Check.due("chip", x.chip(8, 7, true, 10, 12, 10, 0, 50), 0);
-        Check.due("fill", x.fill(0xF0), true);
-        Check.due("why", x.why(0, 0, 7, 0, 1), 0);
-        Check.due("burn", x.burn(0, 0, 7, 0, 1, 5), 5);
-        Check.due("burn", x.burn(0, 0, 7, 0, 1, 100000), 21);
-        Check.due("wrong", x.wrong(0, 0, 1), 0);
     }
 
     private static void pulsesOfAByte() {

@@ -103,7 +103,21 @@ public final class LanguageTest {
             Check.due("import " + imports.group(1), Set.of("java.util.Arrays", "java.util.ArrayList", "java.util.List")
                 .contains(imports.group(1)), true);
         }
+        listedLibrary(source);
         shortMethods(source);
+    }
+
+    /** Rule 4 lists what of the library may be used: of Integer, Long and Math functions alone, no constants. */
+    private static void listedLibrary(String source) {
+        Matcher uses = Pattern.compile("\\b([A-Z]\\w*)\\.(\\w+)(\\()?").matcher(source);
+        while (uses.find()) {
+            String use = uses.group(1) + "." + uses.group(2);
+            boolean numbers = Set.of("Integer", "Long", "Math").contains(uses.group(1)) && uses.group(3) != null;
+            boolean listed = Set.of("System.arraycopy", "Arrays.copyOf", "Arrays.copyOfRange", "Arrays.fill", "List.of").contains(use);
+            boolean own = Arrays.stream(ChipBurner.class.getDeclaredClasses())
+                .anyMatch(inside -> inside.getSimpleName().equals(uses.group(1)));
+            Check.due(use + " is listed", numbers || listed || own, true);
+        }
     }
 
     /** A method of the class stands 4 blanks in, one of a class inside 8, and its last brace as far in. */
